@@ -1,0 +1,77 @@
+import java.io.IOException;
+import java.lang.reflect.Constructor;
+import java.lang.reflect.Field;
+import java.lang.reflect.Method;
+import java.lang.reflect.Modifier;
+import java.nio.file.Files;
+import java.nio.file.Path;
+import java.util.Set;
+import java.util.TreeSet;
+import java.util.regex.Pattern;
+
+/** The public face, and what can be seen of LANGUAGE.md in the class and its source. */
+public final class RulesTest {
+    private static final String[] FACE = {
+        "register(1):int", "input(3):int", "transfer(5):int", "first(1):int", "step(2):int", "output(2):int",
+        "walked(0):int", "state(1):int", "number(1):int", "way(2):int", "alike(2):boolean", "word(3):int",
+        "classes(0):int", "classOf(1):int", "least(3):int", "count(1):int"};
+    private static final String[] NOT_ALLOWED = {
+        "->", "::", "\\bfinally\\b", "\\bsynchronized\\b", "\\bassert\\b", "\\btry\\b", "\\bcatch\\b",
+        "\\bpackage\\b", "Exact\\(", "\\bSystem\\.out\\b", "\\bMap\\b", "\\bstatic \\{", "\\bObject\\b"};
+
+    public static void main(String[] args) throws IOException {
+        face();
+        classesInside();
+        source(Files.readString(Path.of("src/main/java/SmallExhaust.java")));
+        Runs.end();
+    }
+
+    private static void face() {
+        Set<String> open = new TreeSet<>();
+        Set<String> hidden = new TreeSet<>();
+        for (Method method : SmallExhaust.class.getDeclaredMethods()) {
+            if (Modifier.isPrivate(method.getModifiers())) {
+                hidden.add(method.getName());
+            } else {
+                Runs.due(method.getName() + " is public", Modifier.isPublic(method.getModifiers()), true);
+                Runs.due(method.getName() + " is static", Modifier.isStatic(method.getModifiers()), false);
+                open.add(method.getName() + "(" + method.getParameterCount() + "):" + method.getReturnType());
+            }
+        }
+        Runs.due("the face", open, new TreeSet<>(Set.of(FACE)));
+        for (String row : FACE) {
+            String name = row.substring(0, row.indexOf('('));
+            Runs.due("a private method named " + name, hidden.contains(name), false);
+        }
+        Constructor<?>[] constructors = SmallExhaust.class.getDeclaredConstructors();
+        Runs.due("constructors", constructors.length, 1);
+        Runs.due("the constructor's numbers", constructors[0].getParameterCount(), 1);
+        for (Field field : SmallExhaust.class.getDeclaredFields()) {
+            Runs.due(field.getName() + " is open", !Modifier.isPrivate(field.getModifiers()),
+                    field.getName().equals("NONE"));
+        }
+        Runs.due("final", Modifier.isFinal(SmallExhaust.class.getModifiers()), true);
+    }
+
+    private static void classesInside() {
+        Class<?>[] inside = SmallExhaust.class.getDeclaredClasses();
+        Runs.due("some twelve classes at most", inside.length <= 11, true);
+        for (Class<?> one : inside) {
+            Runs.due(one + " is static", Modifier.isStatic(one.getModifiers()), true);
+            Runs.due(one + " is public", Modifier.isPublic(one.getModifiers()), false);
+            for (Field field : one.getDeclaredFields()) {
+                boolean fixed = !Modifier.isStatic(field.getModifiers()) || Modifier.isFinal(field.getModifiers());
+                Runs.due(field + " is no static state", fixed, true);
+            }
+        }
+    }
+
+    private static void source(String text) {
+        String code = text.replaceAll("(?s)/\\*.*?\\*/", "").replaceAll("//[^\n]*", "");
+        for (String pattern : NOT_ALLOWED) {
+            Runs.due("the source has " + pattern, Pattern.compile(pattern).matcher(code).find(), false);
+        }
+        String rest = code.replace("import java.util.Arrays;", "");
+        Runs.due("another import", rest.contains("import "), false);
+    }
+}
