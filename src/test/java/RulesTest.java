@@ -5,6 +5,7 @@ import java.lang.reflect.Method;
 import java.lang.reflect.Modifier;
 import java.nio.file.Files;
 import java.nio.file.Path;
+import java.util.List;
 import java.util.Set;
 import java.util.TreeSet;
 import java.util.regex.Pattern;
@@ -15,12 +16,21 @@ public final class RulesTest {
         "register(1):int", "input(3):int", "transfer(5):int", "first(1):int", "step(2):int", "output(2):int",
         "walked(0):int", "state(1):int", "number(1):int", "way(2):int", "alike(2):boolean", "word(3):int",
         "classes(0):int", "classOf(1):int", "least(3):int", "count(1):int"};
+    private static final String A = "IllegalArgumentException";
+    private static final String S = "IllegalStateException";
+    private static final String U = "UnsupportedOperationException";
+    private static final String I = "IndexOutOfBoundsException";
+    private static final String[][] THROWN = {
+        {"register", A, S, U}, {"input", A, U}, {"transfer", A, U}, {"first", A}, {"step", A}, {"output", A},
+        {"walked", U}, {"state", U, I}, {"number", U, A}, {"way", U, I}, {"alike", A}, {"word", A, I},
+        {"classes", U}, {"classOf", U, I}, {"least", U, I}, {"count"}};
     private static final String[] NOT_ALLOWED = {
         "->", "::", "\\bfinally\\b", "\\bsynchronized\\b", "\\bassert\\b", "\\btry\\b", "\\bcatch\\b",
         "\\bpackage\\b", "Exact\\(", "\\bSystem\\.out\\b", "\\bMap\\b", "\\bstatic \\{", "\\bObject\\b"};
 
     public static void main(String[] args) throws IOException {
         face();
+        exceptionsOfTheFace();
         classesInside();
         source(Files.readString(Path.of("src/main/java/SmallExhaust.java")));
         Runs.end();
@@ -51,6 +61,22 @@ public final class RulesTest {
                     field.getName().equals("NONE"));
         }
         Runs.due("final", Modifier.isFinal(SmallExhaust.class.getModifiers()), true);
+    }
+
+    private static void exceptionsOfTheFace() {
+        for (String[] row : THROWN) {
+            for (Method method : SmallExhaust.class.getDeclaredMethods()) {
+                if (method.getName().equals(row[0])) {
+                    Set<String> named = new TreeSet<>();
+                    for (Class<?> type : method.getExceptionTypes()) {
+                        named.add(type.getSimpleName());
+                    }
+                    Set<String> due = new TreeSet<>(List.of(row));
+                    due.remove(row[0]);
+                    Runs.due(row[0] + " names its exceptions", named, due);
+                }
+            }
+        }
     }
 
     private static void classesInside() {

@@ -8,8 +8,24 @@ final class Runs {
     private static final int MOST_PRINTED = 40;
     private static int rows = 0;
     private static int wrong = 0;
+    private static int sentences = 0;
+    private static String sentence = "";
 
     private Runs() {
+    }
+
+    /** A test of its own for one sentence of the document: a wrong answer in it is told with the sentence. */
+    static void sentence(String text, Runnable test) {
+        int before = rows;
+        sentence = text + ": ";
+        try {
+            test.run();
+        } catch (RuntimeException e) {
+            due("the test itself", e, "an end without an exception");
+        }
+        due("a test without a call", rows == before, false);
+        sentence = "";
+        sentences++;
     }
 
     /** A run on a new object: calls and due answers in turn. */
@@ -30,7 +46,7 @@ final class Runs {
         if (!String.valueOf(got).equals(String.valueOf(want))) {
             wrong++;
             if (wrong <= MOST_PRINTED) {
-                System.out.println(what + " answered " + got + ", due is " + want);
+                System.out.println(sentence + what + " answered " + got + ", due is " + want);
             }
         }
     }
@@ -65,6 +81,9 @@ final class Runs {
     }
 
     static void end() {
+        if (sentences > 0) {
+            System.out.println(sentences + " sentences of the document, each with a test of its own");
+        }
         System.out.println(rows + " answers looked at, " + wrong + " not as due");
         if (wrong != 0 || rows == 0) {
             System.exit(1);
