@@ -44,8 +44,9 @@ public final class RandomRunsTest {
             if (naive.bits() + width <= bits) {
                 call("register", width);
             }
-            if (random.nextInt(10) == 0) {
+            for (int n = random.nextInt(6); n > 3; n--) {
                 ask();
+                call("first", state());
             }
             if (registers == 4) {
                 break;

@@ -8,6 +8,7 @@ import java.nio.file.Path;
 import java.util.List;
 import java.util.Set;
 import java.util.TreeSet;
+import java.util.regex.Matcher;
 import java.util.regex.Pattern;
 
 /** The public face, and what can be seen of LANGUAGE.md in the class and its source. */
@@ -32,7 +33,11 @@ public final class RulesTest {
         face();
         exceptionsOfTheFace();
         classesInside();
-        source(Files.readString(Path.of("src/main/java/SmallExhaust.java")));
+        String code = withoutComments(Files.readString(Path.of("src/main/java/SmallExhaust.java")));
+        source(code);
+        library(code);
+        exceptionsThrown(code);
+        shortMethods(code);
         Runs.end();
     }
 
@@ -79,10 +84,23 @@ public final class RulesTest {
         }
     }
 
+    private static void fewFieldsAndParameters(Class<?> one) {
+        int fields = 0;
+        for (Field field : one.getDeclaredFields()) {
+            fields += Modifier.isStatic(field.getModifiers()) ? 0 : 1;
+        }
+        Runs.due(one + " has at most some twenty fields", fields <= 20, true);
+        for (Method method : one.getDeclaredMethods()) {
+            Runs.due(method + " has at most seven parameters", method.getParameterCount() <= 7, true);
+        }
+    }
+
     private static void classesInside() {
+        fewFieldsAndParameters(SmallExhaust.class);
         Class<?>[] inside = SmallExhaust.class.getDeclaredClasses();
         Runs.due("some twelve classes at most", inside.length <= 11, true);
         for (Class<?> one : inside) {
+            fewFieldsAndParameters(one);
             Runs.due(one + " is static", Modifier.isStatic(one.getModifiers()), true);
             Runs.due(one + " is public", Modifier.isPublic(one.getModifiers()), false);
             for (Field field : one.getDeclaredFields()) {
@@ -92,12 +110,46 @@ public final class RulesTest {
         }
     }
 
-    private static void source(String text) {
-        String code = text.replaceAll("(?s)/\\*.*?\\*/", "").replaceAll("//[^\n]*", "");
+    private static String withoutComments(String text) {
+        return text.replaceAll("(?s)/\\*.*?\\*/", "").replaceAll("//[^\n]*", "");
+    }
+
+    private static void source(String code) {
         for (String pattern : NOT_ALLOWED) {
             Runs.due("the source has " + pattern, Pattern.compile(pattern).matcher(code).find(), false);
         }
         String rest = code.replace("import java.util.Arrays;", "");
         Runs.due("another import", rest.contains("import "), false);
+    }
+
+    /** Of the library only these two are used; whoever uses more has to look it up in rule 4 first. */
+    private static void library(String code) {
+        Set<String> used = new TreeSet<>();
+        Matcher call = Pattern.compile("\\b(Arrays|Math|System|Integer|Long|String|List|java)\\.(\\w+)").matcher(code);
+        while (call.find()) {
+            used.add(call.group());
+        }
+        used.remove("java.util");
+        Runs.due("the library's functions", used, new TreeSet<>(Set.of("Arrays.fill", "Math.floorMod")));
+    }
+
+    private static void exceptionsThrown(String code) {
+        Matcher thrown = Pattern.compile("\\bthrow\\b[^;]*;").matcher(code);
+        Pattern right = Pattern.compile("throw new (" + String.join("|", A, S, U, I) + ")\\(\"[^\"]*\"\\);");
+        while (thrown.find()) {
+            Runs.due(thrown.group() + " is a new exception with a written text", right.matcher(thrown.group()).matches(), true);
+        }
+    }
+
+    /** Methods stand 4 or 8 blanks deep, and end with a brace that stands as deep. */
+    private static void shortMethods(String code) {
+        Matcher method = Pattern.compile("(?m)^( {4}| {8})(?! )[^;={}]*\\([^;={}]*\\{\n(?s:.*?)\n\\1\\}$").matcher(code);
+        int methods = 0;
+        while (method.find()) {
+            methods++;
+            Runs.due("at most 60 lines: " + method.group().lines().findFirst().orElse(""),
+                    method.group().lines().count() <= 60, true);
+        }
+        Runs.due("methods found", methods >= FACE.length, true);
     }
 }
